@@ -330,11 +330,11 @@ public final class PromisesTest {
         y.play(2, HIT, 5);
         y.play(2, STOP, 5);
         y.top();
-        y.play(0, STOP, 5);
-        Due.is("7: those above the one that is off are still by their players", 1, y.top());
+        y.play(1, STOP, 5);
+        Due.is("7: STOP of what moved down", 1, y.top());
         y.top();
-        Due.is("7: so the own one was not off", 11, y.life(3, false));
-        Due.is("7: but the other one", 20, y.life(5, false));
+        Due.is("7: the lowest one was not off", 11, y.life(3, false));
+        Due.is("7: but the nearest one, which is still by its player", 20, y.life(5, false));
     }
 
     private static void topOfTwice() {

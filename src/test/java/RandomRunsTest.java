@@ -47,6 +47,9 @@ public final class RandomRunsTest {
         for (int at = 0; at < 12; at++) {
             both("get", random.nextInt(6), random.nextInt(first), 1 + random.nextInt(9));
         }
+        for (int at = 0; at < 3 * first && seed % 2 == 1; at++) {
+            both("get", at % 3, at / 3, 1);
+        }
         if (seed % 8 == 1) {
             makeGreat();
         }
@@ -94,7 +97,7 @@ public final class RandomRunsTest {
             case "ban" -> both(name, near(0, kinds - 1), aDay(), 0);
             case "get" -> both(name, near(0, 5), near(0, kinds - 1), near(1, 9));
             case "pass" -> both(name, random.nextInt(3) == 0 ? near(1, 100) : near(1, 3), 0, 0);
-            case "play" -> both(name, near(0, 5), near(0, kinds - 1), near(0, 5));
+            case "play" -> both(name, near(0, random.nextBoolean() ? 2 : 5), near(0, kinds - 1), near(0, 5));
             case "bound", "life" -> both(name, near(0, 5), random.nextInt(2), 0);
             case "put" -> both(name, near(0, 2), near(0, kinds - 1), 0);
             case "isGood" -> both(name, near(0, 2), aDay(), 0);
