@@ -1,5 +1,9 @@
 /** Counts and prints the answers that are not as due. */
 final class Due {
+    static final String INDEX = "IndexOutOfBoundsException";
+    static final String ARGUMENT = "IllegalArgumentException";
+    static final String STATE = "IllegalStateException";
+
     interface Call {
         long answer();
     }
@@ -25,6 +29,11 @@ final class Due {
             wrong++;
             System.out.println(what + " answered " + got + ", due is " + want);
         }
+    }
+
+    /** A call throws what is due. */
+    static void refused(String what, String want, Call call) {
+        same(what, want, told(call));
     }
 
     /** The answer of a call, or the name of what it throws. */
