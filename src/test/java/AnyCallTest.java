@@ -29,7 +29,18 @@ public final class AnyCallTest {
                 call(x, face[random.nextInt(face.length)], random);
             }
         }
+        morePlaysThanCalls();
         Due.end();
+    }
+
+    /** What is kept of plays has room for 512 calls: more of them are to do no harm, whatever is answered then. */
+    private static void morePlaysThanCalls() {
+        Sleevehall x = Halls.stocked();
+        for (int times = 0; times < CALLS; times++) {
+            Due.is("after many plays", false, Due.told(() -> x.play(1, Sleevehall.HIT, 2)).endsWith("Exception"));
+            Due.is("after many doings", false, Due.told(() -> x.top()).endsWith("Exception"));
+            Due.is("after many, a life anew", false, Due.told(() -> x.lifeAnew(2)).endsWith("Exception"));
+        }
     }
 
     private static void call(Sleevehall x, Method method, Random random) throws IllegalAccessException {
