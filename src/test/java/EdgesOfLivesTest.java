@@ -1,3 +1,5 @@
+import java.util.Random;
+
 /** The edges that the document names of lives: promises 8 to 10, bounds of all orders and lives anew, a sentence a test. */
 public final class EdgesOfLivesTest {
     private static final int HIT = Sleevehall.HIT;
@@ -19,6 +21,7 @@ public final class EdgesOfLivesTest {
         stopInAnyOrder();
         fullStacks();
         allStacksUpToFive();
+        greatStacksAgainstTheOracle();
         theStackAsItIs();
         lifeThatIsNone();
         allAboveNone();
@@ -151,23 +154,83 @@ public final class EdgesOfLivesTest {
     }
 
     private static void oneStack(int[] plays, int many) {
-        Sleevehall x = new Sleevehall();
-        Oracle oracle = new Oracle();
-        for (int kind = 0; kind < Halls.EFFECTS.length; kind++) {
-            x.kind(Halls.EFFECTS[kind], 9 - kind);
-            oracle.kind(Halls.EFFECTS[kind], 9 - kind);
-        }
+        Both both = new Both(new int[] {9, 8, 7, 6, 5, 4});
         StringBuilder what = new StringBuilder("8: the stack");
         for (int at = 0; at < many; at++) {
-            int player = plays[at] % 2;
-            int kind = plays[at] / 2;
-            x.get(player, kind, 1);
-            oracle.get(player, kind, 1);
-            x.play(player, kind, 3);
-            oracle.play(player, kind, 3);
-            what.append(" ").append(player).append(":").append(kind);
+            both.play(plays[at] % 2, plays[at] / 2, 3);
+            what.append(" ").append(plays[at] % 2).append(":").append(plays[at] / 2);
         }
-        bounds(what.toString(), oracle.bound(3, false), oracle.bound(3, true), x, 3);
+        both.bounds(what.toString(), 3);
+    }
+
+    /** The same calls on a hall and on the oracle, with a kind of each effect that the players 0 to 2 have. */
+    private static final class Both {
+        private final Sleevehall x = new Sleevehall();
+        private final Oracle oracle = new Oracle();
+
+        Both(int[] numbers) {
+            for (int kind = 0; kind < Halls.EFFECTS.length; kind++) {
+                x.kind(Halls.EFFECTS[kind], numbers[kind]);
+                oracle.kind(Halls.EFFECTS[kind], numbers[kind]);
+                for (int player = 0; player <= 2; player++) {
+                    x.get(player, kind, 1);
+                    oracle.get(player, kind, 1);
+                }
+            }
+        }
+
+        void play(int player, int kind, int against) {
+            x.play(player, kind, against);
+            oracle.play(player, kind, against);
+        }
+
+        boolean top() {
+            String told = Due.told(() -> x.top());
+            Due.same("7: top", Due.told(() -> oracle.top()), told);
+            return !told.equals(Due.STATE);
+        }
+
+        /** A play whose number is doubled so often, or as often as it may be; it takes three places for a while. */
+        void playGreat(int player, int kind, int against, int times) {
+            play(player, kind, against);
+            boolean isDoubled = true;
+            for (int time = 0; isDoubled && time < times; time++) {
+                play(0, TWICE, against);
+                isDoubled = top();
+            }
+            if (!isDoubled) {
+                play(1, STOP, against);
+                top();
+            }
+        }
+
+        void bounds(String what, int player) {
+            EdgesOfLivesTest.bounds(what, oracle.bound(player, false), oracle.bound(player, true), x, player);
+        }
+    }
+
+    /** Stacks of three to six plays, some of them with great numbers, so that many of their orders are refused. */
+    private static void greatStacksAgainstTheOracle() {
+        for (int seed = 0; seed < 600; seed++) {
+            Random random = new Random(seed);
+            Both both = new Both(random.ints(Halls.EFFECTS.length, 1, 10).toArray());
+            for (int before = random.nextInt(3); before > 0; before--) {
+                both.playGreat(0, random.nextInt(3), random.nextInt(2), 24 + random.nextInt(8));
+                both.top();
+            }
+            int many = 3 + random.nextInt(4);
+            while (both.x.stacked() < many) {
+                int player = random.nextInt(3);
+                int kind = random.nextInt(Halls.EFFECTS.length);
+                if (both.x.stacked() < 4 && random.nextBoolean()) {
+                    both.playGreat(player, kind, random.nextInt(2), 24 + random.nextInt(8));
+                } else {
+                    both.play(player, kind, random.nextInt(2));
+                }
+            }
+            both.bounds("8: great stack, seed " + seed, 0);
+            both.bounds("8: great stack, seed " + seed, 1);
+        }
     }
 
     private static void theStackAsItIs() {
