@@ -1,21 +1,23 @@
 import java.io.File;
+import java.lang.reflect.Method;
+import java.lang.reflect.Modifier;
 import java.net.URL;
 import java.net.URLClassLoader;
 import java.nio.file.Files;
 import java.nio.file.Path;
 import java.util.ArrayList;
+import java.util.Collections;
 import java.util.List;
 import java.util.TreeSet;
 import java.util.function.Function;
 import java.util.regex.Matcher;
 import java.util.regex.Pattern;
-import javax.tools.JavaCompiler;
-import javax.tools.ToolProvider;
 
-/** What README.md says holds: its run of calls, done as written, its tables of calls and of tests, and its commands. */
+/** What README.md says holds: its run of calls, done as written, and its tables of calls, effects and tests. */
 public final class ReadmeTest {
-    private static final Pattern CALL = Pattern.compile("(int (\\w+) = )?(hall\\.\\w+\\(.*\\));(\\s+// ([^:]+)(: .+)?)?");
-    private static final Pattern NAME = Pattern.compile("`(\\w+)`");
+    private static final Pattern CALL = Pattern.compile(
+        "(int (\\w+) = )?(hall\\.\\w+\\(.*\\));(\\s+// ([^:]+)(: .+)?)?");
+    private static final Pattern WORD = Pattern.compile("`([^`]+)`");
 
     private ReadmeTest() {
     }
@@ -52,7 +54,8 @@ public final class ReadmeTest {
         for (int at = 0; at < answers.size() && at < got.size(); at++) {
             Due.same("README: " + calls.get(at), answers.get(at), got.get(at));
         }
-        for (String name : namesOfCalls()) {
+        for (String call : callsOfFace()) {
+            String name = call.substring(0, call.indexOf('('));
             Due.is("README: the run has a call of " + name, true, text.indexOf("hall." + name + "(") >= 0);
         }
     }
@@ -74,11 +77,15 @@ public final class ReadmeTest {
         Files.writeString(file, "import java.util.List;\n"
             + "public final class Shown implements java.util.function.Function<List<String>, List<String>> {\n"
             + "public List<String> apply(List<String> told) {\n" + text + "return told;\n}\n}\n");
-        JavaCompiler compiler = ToolProvider.getSystemJavaCompiler();
         String path = System.getProperty("java.class.path");
-        Due.is("README: the run compiles", 0,
-            compiler.run(null, null, null, "-cp", path, "-d", directory.toString(), file.toString()));
+        Process javac = new ProcessBuilder("javac", "-cp", path, "-d", directory.toString(), file.toString())
+            .inheritIO().start();
+        boolean isCompiled = javac.waitFor() == 0;
+        Due.is("README: the run compiles", true, isCompiled);
         try (URLClassLoader loader = new URLClassLoader(new URL[] {directory.toUri().toURL()})) {
+            if (!isCompiled) {
+                return List.of();
+            }
             Object shown = loader.loadClass("Shown").getConstructor().newInstance();
             return ((Function<List<String>, List<String>>) shown).apply(new ArrayList<>());
         } finally {
@@ -88,13 +95,16 @@ public final class ReadmeTest {
         }
     }
 
-    /** The table of calls names each call once, and nothing else. */
+    /** The tables of calls name each call once, with as many arguments as it has, and nothing else. */
     private static void calls(List<String> lines) {
-        List<String> got = namesBehind(lines, "| calls |");
-        Due.is("README: how many calls", namesOfCalls().size(), got.size());
-        Due.same("README: the calls", namesOfCalls().toString(), new TreeSet<>(got).toString());
+        List<String> got = new ArrayList<>();
+        for (String call : wordsBehind(lines, "| call |")) {
+            got.add(call.replaceAll("\\w+(?=[,)])", "_"));
+        }
+        Due.is("README: how many calls", callsOfFace().size(), got.size());
+        Due.same("README: the calls", callsOfFace().toString(), new TreeSet<>(got).toString());
         Due.same("README: the effects", "[HIT, HEAL, GUARD, STOP, TWICE, TURN]",
-            namesBehind(lines, "| effect |").toString());
+            wordsBehind(lines, "| effect |").toString());
     }
 
     /** The table of tests names each test once, and nothing else. */
@@ -105,35 +115,37 @@ public final class ReadmeTest {
                 want.add(file.substring(0, file.length() - ".java".length()));
             }
         }
-        List<String> got = namesBehind(lines, "| test |");
+        List<String> got = wordsBehind(lines, "| test |");
         Due.is("README: how many tests", want.size(), got.size());
         Due.same("README: the tests", want.toString(), new TreeSet<>(got).toString());
     }
 
-    private static TreeSet<String> namesOfCalls() {
-        TreeSet<String> names = new TreeSet<>();
-        for (java.lang.reflect.Method each : Sleevehall.class.getDeclaredMethods()) {
-            if (java.lang.reflect.Modifier.isPublic(each.getModifiers())) {
-                names.add(each.getName());
+    /** The calls of the face, with a sign for each argument, as in kind(_, _). */
+    private static TreeSet<String> callsOfFace() {
+        TreeSet<String> calls = new TreeSet<>();
+        for (Method each : Sleevehall.class.getDeclaredMethods()) {
+            if (Modifier.isPublic(each.getModifiers())) {
+                List<String> arguments = Collections.nCopies(each.getParameterCount(), "_");
+                calls.add(each.getName() + "(" + String.join(", ", arguments) + ")");
             }
         }
-        return names;
+        return calls;
     }
 
-    /** The names in the first column of the table with this head. */
-    private static List<String> namesBehind(List<String> lines, String head) {
-        List<String> names = new ArrayList<>();
+    /** The words in the first column of the tables with this head. */
+    private static List<String> wordsBehind(List<String> lines, String head) {
+        List<String> words = new ArrayList<>();
         boolean isIn = false;
         for (String line : lines) {
             isIn = line.startsWith(head) || isIn && line.startsWith("|");
             if (isIn) {
-                Matcher name = NAME.matcher(line.substring(0, line.indexOf('|', 1)));
-                while (name.find()) {
-                    names.add(name.group(1));
+                Matcher word = WORD.matcher(line.substring(0, line.indexOf('|', 1)));
+                while (word.find()) {
+                    words.add(word.group(1));
                 }
             }
         }
-        return names;
+        return words;
     }
 
     private static List<String> block(List<String> lines, String head) {
